@@ -898,9 +898,9 @@ public final class PostBus {
 
         Reader() {
             draft = new Rules();
-            kinds = new int[MOST_SIGNS + 1];
-            numbers = new int[MOST_SIGNS + 1];
-            spots = new int[MOST_SIGNS + 1];
+            kinds = new int[MOST_SIGNS];
+            numbers = new int[MOST_SIGNS];
+            spots = new int[MOST_SIGNS];
         }
 
         int read(Tape tape, int places) {
@@ -909,7 +909,7 @@ public final class PostBus {
             next = 0;
             int fault = 0;
             for (int line = 0; line <= MOST_LINES && fault == 0 && kind() != END; line++) {
-                fault = line(line, places);
+                fault = readLine(line, places);
             }
             int spot = next < tokens ? spots[next] : tape.length;
             return fault == 0 ? 0 : fault + FAULT_PLACE * spot;
@@ -983,7 +983,7 @@ public final class PostBus {
             return 0;
         }
 
-        private int line(int index, int places) {
+        private int readLine(int index, int places) {
             if (kind() == AT && index >= MOST_LINES) {
                 return FAULT_TOO_MUCH;
             }

@@ -4,6 +4,8 @@ public final class MinuteTest {
         limits();
         oneRun();
         meetingInABlock();
+        upFirstInABlock();
+        blocksSideBySide();
         followingRuns();
         followingInPassingPlaces();
         narrowPlaceAhead();
@@ -13,7 +15,9 @@ public final class MinuteTest {
         fares();
         gettingOutFreesSeats();
         loadsThatComeLater();
+        twoRunsWithLoads();
         snowOnTheWay();
+        fullLine();
         Check.end();
     }
 
@@ -70,6 +74,36 @@ public final class MinuteTest {
         Check.look(x, 1, 2, 0, 2);
         x.minutes(8);
         Check.look(x, 1, 3, 3, 0, 0, 0, 0, 18);
+    }
+
+    private static void upFirstInABlock() {
+        PostBus x = Check.line("-p", 3, 3);
+        x.run(true, 1, 1, 1);
+        x.run(false, 2, 1, 1);
+        x.minutes(4);
+        Check.look(x, 0, 2, 0, 1);
+        Check.look(x, 1, 1, 2);
+        x.minutes(1);
+        Check.look(x, 0, 1, 1);
+        Check.look(x, 1, 1, 2);
+        x.minutes(4);
+        Check.look(x, 0, 3, 2);
+        Check.look(x, 1, 2, 2, 3);
+    }
+
+    private static void blocksSideBySide() {
+        for (int first = 0; first < 2; first++) {
+            PostBus x = Check.line("pp", 3, 3);
+            x.run(first == 0, 1, 1, 1);
+            x.run(first != 0, 1, 1, 1);
+            x.minutes(2);
+            Check.look(x, 0, 2);
+            Check.look(x, 1, 2);
+            // Both come to place 1 in minute 5, and may leave it past each other.
+            x.minutes(4);
+            Check.look(x, 0, 2, 1);
+            Check.look(x, 1, 2, 1);
+        }
     }
 
     private static void followingRuns() {
@@ -231,6 +265,48 @@ public final class MinuteTest {
         x.minutes(1);
         Check.lies(x, 1, 0, -1);
         Check.due("one waits", x.count(6), 1);
+    }
+
+    private static void twoRunsWithLoads() {
+        PostBus x = Check.line("pp", 2, 2);
+        x.run(true, 1, 1, 1);
+        x.run(true, 1, 1, 1);
+        x.load(0, 0, 1, 0);
+        x.load(0, 0, 1, 0);
+        x.load(0, 0, 1, 1);
+        x.minutes(4);
+        Check.lies(x, 0, 2, 0, 4, 3);
+        Check.lies(x, 1, 1, 1, 0, 3);
+        Check.lies(x, 2, 0, -1, 0, 0);
+        Check.due("got out", x.count(5), 1);
+        x.minutes(2);
+        Check.lies(x, 1, 2, 1, 6, 3);
+        Check.due("got out", x.count(5), 2);
+        x.minutes(9);
+        Check.look(x, 0, 3, 2, 0, 0, 0, 3, 7);
+        Check.look(x, 1, 3, 2, 0, 0, 0, 3, 9);
+    }
+
+    private static void fullLine() {
+        PostBus x = Check.line("---------", 1, 1, 1, 1, 1, 1, 1, 1, 1);
+        for (int k = 0; k < 12; k++) {
+            x.run(k % 2 == 0, 1 + k, 40, 40);
+        }
+        for (int k = 0; k < 80; k++) {
+            x.load(k % 3, k % 10, (k + 1 + k / 10) % 10, 0);
+        }
+        StringBuilder text = new StringBuilder();
+        for (int k = 0; k < 24; k++) {
+            text.append("at ").append(k % 10).append(" wait 2 when people+things;");
+        }
+        Check.due("24 lines", Check.text(x, text.toString()), 0);
+        Check.due("lines", x.count(8), 24);
+        for (int k = 0; k < 3; k++) {
+            x.minutes(200);
+        }
+        Check.due("runs OVER", x.count(4), 12);
+        Check.due("got out", x.count(5), 80);
+        Check.due("wait", x.count(6), 0);
     }
 
     private static void snowOnTheWay() {
