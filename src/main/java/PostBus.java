@@ -460,7 +460,9 @@ public final class PostBus {
 
         void copyFrom(Fleet other) {
             size = other.size;
-            System.arraycopy(other.up, 0, up, 0, MOST_RUNS);
+            for (int run = 0; run < MOST_RUNS; run++) {
+                up[run] = other.up[run];
+            }
             System.arraycopy(other.seats, 0, seats, 0, MOST_RUNS);
             System.arraycopy(other.room, 0, room, 0, MOST_RUNS);
             System.arraycopy(other.minute, 0, minute, 0, MOST_RUNS);
@@ -768,7 +770,7 @@ public final class PostBus {
             int low = fleet.up[run] ? 0 : fleet.place[run];
             int high = fleet.up[run] ? fleet.place[run] : road.places - 1;
             int due = fleet.minute[run];
-            for (int stretch = low; stretch < high && road.hasStretch(stretch); stretch++) {
+            for (int stretch = low; stretch >= 0 && stretch < high && stretch < MOST_PLACES; stretch++) {
                 due += road.stretchMinutes[stretch] + 1;
             }
             return now - due;

@@ -5,8 +5,11 @@ import java.util.Random;
 
 /** Long runs of chance calls (always the same ones) against a second, slow reading of the document. */
 public final class SoakTest {
-    private static final int OBJECTS = 160;
-    private static final int CALLS = 300;
+    private static final int OBJECTS = 2500;
+    /** What a later call of one object answers is free. */
+    private static final int MOST_CALLS = 512;
+    /** A text of 800 signs, the reading of it, and what is asked in between. */
+    private static final int DEAREST_STEP = 60;
 
     public static void main(String[] args) {
         for (int seed = 0; seed < OBJECTS; seed++) {
@@ -17,37 +20,67 @@ public final class SoakTest {
 
     private final Random chance;
     private final int seed;
+    private final boolean fewLoads;
     private final PostBus bus = new PostBus();
     private final Model model = new Model();
+    private int calls;
 
     private SoakTest(int seed) {
         this.seed = seed;
         this.chance = new Random(seed);
+        this.fewLoads = chance.nextBoolean();
     }
 
     private void soak() {
         int places = chance.nextInt(10);
         for (int k = 0; k < places; k++) {
-            int minutes = 1 + chance.nextInt(chance.nextBoolean() ? 4 : 12);
+            int minutes = far(1 + chance.nextInt(chance.nextBoolean() ? 4 : 12));
             boolean passing = chance.nextInt(3) == 0;
             same("place", bus.place(minutes, passing), model.place(minutes, passing));
         }
-        for (int k = 0; k < CALLS; k++) {
-            call(chance.nextInt(20));
-            compare();
+        while (calls + DEAREST_STEP + costOfComparing() < MOST_CALLS) {
+            int which = chance.nextInt(20);
+            boolean left = fewLoads && which > 2 && which < 7;
+            call(left ? 19 : which);
+            askOne();
         }
+        compare();
+        Check.yes("seed " + seed + ": no more calls than are promised", calls <= MOST_CALLS);
+    }
+
+    private int costOfComparing() {
+        return 10 + 10 * model.runs.size() + 4 * model.loads.size() + model.places.size();
+    }
+
+    /** Now and then a number that no argument takes, instead of a near one. */
+    private int far(int near) {
+        return chance.nextInt(60) == 0 ? Check.FAR[chance.nextInt(Check.FAR.length)] : near;
+    }
+
+    private void askOne() {
+        int run = chance.nextInt(model.runs.size() + 1);
+        int load = chance.nextInt(model.loads.size() + 1);
+        int what = chance.nextInt(10);
+        if (run < model.runs.size()) {
+            same("look(" + run + ", " + what + ")", Check.lookOrThrow(bus, run, what), model.look(run, what));
+        }
+        if (load < model.loads.size()) {
+            same("lies(" + load + ", " + what % 4 + ")", Check.liesOrThrow(bus, load, what % 4), model.lies(load, what % 4));
+        }
+        same("count(" + what + ")", bus.count(what), model.count(what));
     }
 
     private void same(String call, int got, int want) {
+        calls++;
         Check.due("seed " + seed + ", minute " + model.now + ": " + call, got, want);
     }
 
     private int near(int low, int high) {
-        return low - 1 + chance.nextInt(high - low + 3);
+        return far(low - 1 + chance.nextInt(high - low + 3));
     }
 
     private int soon() {
-        return model.now + near(1, 20);
+        return far(model.now + chance.nextInt(22));
     }
 
     private void call(int which) {
@@ -79,12 +112,13 @@ public final class SoakTest {
             case 9: {
                 int stretch = near(0, places - 2);
                 int low = soon();
-                int high = low + near(0, 8);
+                int high = far(low + chance.nextInt(10) - 1);
                 same("snow", bus.snow(stretch, low, high) ? 1 : 0, model.snow(stretch, low, high) ? 1 : 0);
                 return;
             }
             case 10: case 11: {
                 String text = chance.nextInt(3) == 0 ? broken(text()) : text();
+                calls += text.length() / 24 + 1;
                 same("feed " + text, Check.feed(bus, text), model.feed(text));
                 same("text " + text, bus.text(), model.text());
                 return;
@@ -92,7 +126,7 @@ public final class SoakTest {
             case 12: {
                 int run = near(0, model.runs.size() - 1);
                 int low = soon();
-                int high = low + near(0, 4);
+                int high = far(low + chance.nextInt(7) - 1);
                 same("best(" + run + ", " + low + ", " + high + ")", bus.best(run, low, high), model.best(run, low, high));
                 same("takes", bus.takes(), model.takes);
                 return;
